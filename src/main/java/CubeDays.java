@@ -22,15 +22,16 @@ public final class CubeDays {
     private static final int SUSPECTS = CUBES * SIDES * FIGURES;
 
     private final Text text = new Text();
-    private final Desk table = new Desk();
+    /** Owns the desk and its state; the two behind it are names for these. */
+    private final Trial trial = new Trial();
+    private final Desk table = trial.desk;
+    private final State now = trial.state;
     /** A text is read into this one, so that a fault leaves the table as it was. */
     private final Desk spare = new Desk();
-    private final State now = new State();
     private final Past past = new Past();
     private final State[] images = new State[IMAGES];
     private final boolean[] isKept = new boolean[IMAGES];
     private final Notes notes = new Notes();
-    private final Trial trial = new Trial(table, now);
     private final Pairs pairs = new Pairs();
     private final int[] sightings = new int[DAYS];
     private int faultAt = NONE;
@@ -490,8 +491,6 @@ public final class CubeDays {
         int high;
         boolean hasNoughts;
         int cubes;
-        int turns;
-        int priced;
         final int[] sideCount = new int[CUBES];
         final int[] figures = new int[CUBES * SIDES];
         final int[] turnedOver = new int[FIGURES];
@@ -508,8 +507,6 @@ public final class CubeDays {
             high = -1;
             hasNoughts = false;
             cubes = 0;
-            turns = 0;
-            priced = 0;
             for (int figure = 0; figure < FIGURES; figure++) {
                 turnedOver[figure] = figure;
                 prices[figure] = 1;
@@ -522,8 +519,6 @@ public final class CubeDays {
             high = from.high;
             hasNoughts = from.hasNoughts;
             cubes = from.cubes;
-            turns = from.turns;
-            priced = from.priced;
             System.arraycopy(from.sideCount, 0, sideCount, 0, CUBES);
             System.arraycopy(from.figures, 0, figures, 0, CUBES * SIDES);
             System.arraycopy(from.turnedOver, 0, turnedOver, 0, FIGURES);
@@ -578,6 +573,8 @@ public final class CubeDays {
         private int faultNumber = 0;
         private int at = 0;
         private int numberAt = 0;
+        private int turns = 0;
+        private int priced = 0;
 
         boolean isFull() {
             return length >= LETTERS;
@@ -594,6 +591,8 @@ public final class CubeDays {
         int readInto(Desk desk) {
             desk.clear();
             at = 0;
+            turns = 0;
+            priced = 0;
             faultNumber = 0;
             faultAt = NONE;
             for (int clause = 0; clause < LETTERS && hasMore(); clause++) {
@@ -719,7 +718,7 @@ public final class CubeDays {
         }
 
         private void readTurn(Desk desk) {
-            readWord(desk.turns >= TURNS);
+            readWord(turns >= TURNS);
             int one = readNumber(FIGURES - 1);
             if (desk.turnedOver[one] != one) {
                 blame(4, numberAt);
@@ -732,21 +731,21 @@ public final class CubeDays {
             if (faultNumber == 0) {
                 desk.turnedOver[one] = other;
                 desk.turnedOver[other] = one;
-                desk.turns++;
+                turns++;
             }
         }
 
         private void readPrice(Desk desk) {
             readWord(false);
             int figure = readNumber(FIGURES - 1);
-            if ((desk.priced >> figure & 1) == 1) {
+            if ((priced >> figure & 1) == 1) {
                 blame(4, numberAt);
             }
             int cost = readNumber(99);
             readEnd();
             if (faultNumber == 0) {
                 desk.prices[figure] = cost;
-                desk.priced |= 1 << figure;
+                priced |= 1 << figure;
             }
         }
     }
@@ -873,17 +872,12 @@ public final class CubeDays {
         }
     }
 
-    /** What is tried from now: cubes may be seen otherwise here, and nothing changes by it. */
+    /** What is tried from now: cubes may be seen otherwise in it, and the state stays as it is. */
     private static final class Trial {
-        private final Desk desk;
-        private final State state;
+        final Desk desk = new Desk();
+        final State state = new State();
         /** Row by figure: the cubes, not lost, that show it. */
         private final int[] cubesFor = new int[FIGURES];
-
-        Trial(Desk desk, State state) {
-            this.desk = desk;
-            this.state = state;
-        }
 
         /** Sees all as it is now. */
         void begin() {

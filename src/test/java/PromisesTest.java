@@ -322,24 +322,28 @@ public final class PromisesTest {
         driftTillFull();
     }
 
+    /** Figure 0 costs 1, all others 90: so the cost can be brought to the limit itself. */
     private static void driftTillFull() {
-        StringBuilder text = new StringBuilder("d0 9 0;c1;");
-        for (int figure = 0; figure < 10; figure++) {
-            text.append("p").append(figure).append(" 99;");
+        StringBuilder text = new StringBuilder("d0 9 0;c1;p0 1;");
+        for (int figure = 1; figure < 10; figure++) {
+            text.append("p").append(figure).append(" 90;");
         }
         CubeDays x = Check.on(text.toString());
         int cost = 0;
-        for (int call = 0; call < 300; call++) {
-            boolean full = cost > 900000;
-            int got = x.drift(40);
-            if (!full) {
-                cost += 40 * 99;
-            }
-            due("11: till it is full", got, full ? FULL : cost);
+        for (int call = 0; call < 400 && 900000 - cost >= 90; call++) {
+            cost = x.drift(Math.min(40, (900000 - cost) / 90));
         }
-        due("11: that was above", cost > 900000 ? 1 : 0, 1);
+        for (int i = cost; i < 900000; i++) {
+            cost = x.paint(0, 0, 0);
+        }
+        due("11: at the limit", x.told(6), 900000);
+        due("11: it is not above", x.drift(1) > 900000 ? 1 : 0, 1);
+        due("11: now it is", x.drift(1), FULL);
+        x.undo();
+        due("11: one more", x.paint(0, 0, 0), 900001);
+        due("11: is above", x.drift(1), FULL);
         due("11: outside ahead of full", x.drift(0), OUTSIDE);
-        due("11: painting goes on", x.paint(0, 0, 0), cost + 99);
+        due("11: painting goes on", x.paint(0, 0, 1), 900091);
     }
 
     private static void undo() {
