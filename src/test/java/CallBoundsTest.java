@@ -446,6 +446,11 @@ public final class CallBoundsTest {
         due("20: the last side of the last cube", Check.on("d0 1 0;c2;c3;c4;c5,5,5,5,5,1;").worst(), 35);
         due("20: of like ones the least", Check.on("d0 1 0;c2;c3,0;c4;c5,5,5,5,5,1;").worst(), 11);
         due("20: nothing is gone anywhere", Check.on("d0 1 0;c2;c3;").worst(), 0);
+        CubeDays spare = Check.on("d0 99 1;c0,2,4,6,8,9;c0,2,4,6,8,9;c0,2,4,6,8,9;c0,2,4,6,8,9;t0 1;t2 3;t4 5;t6 7;");
+        due("20: all hundred stay, whatever is blank", spare.worst(), 0);
+        spare.lose(0, true);
+        spare.lose(1, true);
+        due("20: with two cubes a side is missed", spare.worst(), 20);
         CubeDays x = Check.on("d0 1 0;c0;c1;");
         due("20: the first", x.worst(), 0);
         x.lose(0, true);

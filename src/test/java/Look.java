@@ -13,27 +13,28 @@ final class Look {
 
     static List<Integer> whole(CubeDays x) {
         List<Integer> seen = new ArrayList<>();
+        int cubes = x.told(3);
         surface(x, seen);
-        state(x, seen);
+        state(x, cubes, seen);
         for (int i = 0; i < MOST_UNDONE; i++) {
             int left = x.undo();
             seen.add(left);
             if (left < 0) {
                 break;
             }
-            state(x, seen);
+            state(x, cubes, seen);
         }
         for (int i = 0; i < 2; i++) {
             int back = x.goBack(i);
             seen.add(back);
             if (back == 1) {
-                state(x, seen);
+                state(x, cubes, seen);
                 seed(x, seen);
             }
         }
         seen.add(x.desk());
         surface(x, seen);
-        state(x, seen);
+        state(x, x.told(3), seen);
         return seen;
     }
 
@@ -55,10 +56,9 @@ final class Look {
         seed(x, seen);
     }
 
-    private static void state(CubeDays x, List<Integer> seen) {
+    private static void state(CubeDays x, int cubes, List<Integer> seen) {
         seen.add(x.told(5));
         seen.add(x.told(6));
-        int cubes = x.told(3);
         for (int c = 0; c < cubes; c++) {
             int sides = x.side(c, CubeDays.NONE);
             seen.add(sides);

@@ -119,6 +119,9 @@ public final class ModelTest {
         if (chance.nextInt(4) == 0) {
             t = spoilt(t);
         }
+        if (calls + t.length() + 2 > CALLS) {
+            return;
+        }
         for (int i = 0; i < t.length(); i++) {
             due("feed(" + (int) t.charAt(i) + ")", x.feed(t.charAt(i)), m.feed(t.charAt(i)));
         }
